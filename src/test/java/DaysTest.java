@@ -121,6 +121,8 @@ public final class DaysTest {
         t.good("live(0) again", t.x.live(0), 4);
         t.good("all missed", t.x.lived(0), 4);
         t.good("none caught", t.x.lived(2), 0);
+        t.good("none off", t.x.lived(3), 0);
+        t.good("no hours", t.x.lived(1), 0);
         t.good("all that were caught", t.x.many(9), 20);
         t.takeYard("", 0);
         t.good("whatever came since", t.x.lived(0), 4);
@@ -135,6 +137,10 @@ public final class DaysTest {
         t.takeDays("net lee;gap wagon;move nip to lee;move nip to lee;take oat;take oat;wind;week 1;", 8);
         t.good("live(0)", t.x.live(0), 8);
         t.good("none missed", t.x.lived(0), 0);
+        t.takeDays("move nip to wagon;move big to lee;", 2);
+        t.good("live(0)", t.x.live(0), 2);
+        t.good("nip", t.x.dog(0, 0), 2);
+        t.good("big", t.x.dog(1, 0), 0);
         t.good("a net", t.x.side(0, 1), 1);
         t.good("a gap", t.x.side(2, 1), 0);
         t.good("at hand", t.x.many(8), 0);
@@ -206,6 +212,13 @@ public final class DaysTest {
         t.good("whens that are passed in loops: all 8 are off", t.x.live(0), 1 + 2 * 2);
         t.takeDays("loop 2;when off>7;wind;end;when off=8;wind;end;end;", 5);
         t.good("whens in loops", t.x.live(0), 1 + 2 * 4);
+        t.takeDays("loop 2;loop 3;loop 4;wind;end;end;end;wind;", 5);
+        t.good("three loops that end at once", t.x.live(0), 1 + 2 * (1 + 3 * (1 + 4)) + 1);
+        t.takeDays("loop 2;loop 3;loop 4;stop;end;end;end;", 4);
+        t.good("stopped within three", t.x.live(0), 4);
+        t.good("and once more", t.x.live(0), 4);
+        t.takeDays("wind;loop 2;loop 3;loop 4;wind;end;wind;end;wind;end;wind;", 8);
+        t.good("as if nothing was open", t.x.live(0), 1 + 1 + 2 * (1 + 3 * (1 + 4 + 1) + 1) + 1);
         t.takeDays("when off=9999;loop 9;wind;end;end;wind;", 4);
         t.good("a loop in a when that is passed", t.x.live(0), 2);
     }

@@ -265,7 +265,13 @@ public final class DoneTest {
         t.x.hour();
         t.good("tails", t.x.dog(0, 3), 8);
         t.good("all of them are fresh again", t.x.rest(), 0);
-        t.good("would catch three, then two", t.x.run(4, false, 0), 3);
+        t.good("would catch three", t.x.run(4, false, 0), 3);
+        t.good("all four", t.x.last(2), 0);
+        t.takeYard("rick a holds 0 layers 9;side s weight 1;dog d at s catches 9 tires 5;", 1);
+        t.x.rest();
+        t.x.take(0);
+        t.x.last(1);
+        t.good("as many as tire it", t.x.dog(0, 3), 5);
     }
 
     private static void week() {

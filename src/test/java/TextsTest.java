@@ -13,6 +13,9 @@ public final class TextsTest {
         leastKind();
         faultTells();
         newYard();
+        nothingOfTheOldYard();
+        longTexts();
+        fourOfEach();
         toldOfFarm();
         netsAndShares();
         copyLayers();
@@ -189,6 +192,8 @@ public final class TextsTest {
         String eight = "rick a holds 1 layers 1 2 3 4 5 6 7 8";
         t.takeYard(eight + ";", 1);
         t.refuseYard(eight + " 9;", 6, 38);
+        t.refuseYard(eight + " 0;", 6, 38);
+        t.refuseYard(eight + " 99;", 6, 38);
         t.refuseYard(eight + " 100;", 4, 38);
         t.refuseYard(eight + " 10000;", 1, 38);
         t.refuseYard(eight + " x;", 2, 38);
@@ -240,6 +245,56 @@ public final class TextsTest {
         t.good("tired()", t.x.tired(), 0);
         t.bad("no days", t.x.live(0), 8);
         t.good("pence spent are of the yard", t.x.cap(0), 100);
+    }
+
+    private static void nothingOfTheOldYard() {
+        Due t = new Due("a yard in place of that ahead");
+        t.takeYard("rick a holds 9 layers 7 7 caps;side b weight 9 net to a;dog c at b catches 9 tires 9;"
+                + "boy d at b reach 9;penny 9;corn 9;breed 99;cost 9;", 1);
+        t.good("to the first rick", t.x.side(0, 2), 0);
+        t.takeYard("rick a holds 1 layers 1;side b weight 1;", 1);
+        t.good("layers", t.x.rick(0, 1), 1);
+        t.good("caps", t.x.rick(0, 3), 0);
+        t.good("net", t.x.side(0, 1), 0);
+        t.bad("to", t.x.side(0, 2), 8);
+        t.good("dogs", t.x.many(2), 0);
+        t.good("boys", t.x.many(3), 0);
+        t.good("penny", t.x.many(4), 1);
+        t.good("corn", t.x.many(5), 1);
+        t.good("breed", t.x.many(6), 0);
+        t.good("cost", t.x.many(7), 0);
+    }
+
+    private static void longTexts() {
+        Due t = new Due("promise 10");
+        t.refuseYard(String.join("", Collections.nCopies(900, ";")), 2, 0);
+        t.refuseYard(String.join("", Collections.nCopies(900, "z")), 2, 0);
+        t.refuseYard(String.join("", Collections.nCopies(900, "0")), 1, 0);
+        t.refuseYard(String.join("", Collections.nCopies(899, " ")) + "?", 1, 899);
+        t.refuseYard("penny 1;" + String.join("", Collections.nCopies(892, "=")), 2, 8);
+        t.takeYard("rick zzzzzzzz holds 1 layers 1;rick zzzzzzzy holds 1 layers 1;rick az holds 1 layers 1;"
+                + "rick z holds 1 layers 1;", 4);
+    }
+
+    private static void fourOfEach() {
+        Due t = new Due("promises 13 to 18");
+        t.takeYard("rick a holds 1 layers 1;rick b holds 2 layers 2;rick c holds 3 layers 3;rick d holds 4 layers 4;"
+                + "side e weight 1 to d;side f weight 2 to c;side g weight 3 to b;side h weight 4 to a;"
+                + "dog i at h catches 1 tires 1;dog j at g catches 2 tires 2;dog k at f catches 3 tires 3;"
+                + "dog l at e catches 4 tires 4;boy m at h reach 1;boy n at g reach 2;boy o at f reach 3;"
+                + "boy p at e reach 4;", 4);
+        for (int i = 0; i < 4; i++) {
+            t.good("holds", t.x.rick(i, 0), i + 1);
+            t.good("rats", t.x.layer(i, 0), i + 1);
+            t.good("weight", t.x.side(i, 0), i + 1);
+            t.good("to", t.x.side(i, 2), 3 - i);
+            t.good("at", t.x.dog(i, 0), 3 - i);
+            t.good("catches", t.x.dog(i, 1), i + 1);
+            t.good("tires", t.x.dog(i, 2), i + 1);
+            t.good("at", t.x.boy(i, 0), 3 - i);
+            t.good("reach", t.x.boy(i, 1), i + 1);
+        }
+        t.bad("a fifth", t.x.dog(4, 0), 2);
     }
 
     private static void toldOfFarm() {
@@ -318,6 +373,13 @@ public final class TextsTest {
         t.good("pay()", t.x.pay(), 0);
         t.good("share()", t.x.share());
         t.fraction(1, 1);
+        t.x.mark();
+        t.takeYard("rick a holds 0 layers 1;", 1);
+        t.x.take(0);
+        t.x.last(1);
+        t.good("share() of one", t.x.share());
+        t.fraction(0, 1);
+        t.x.back();
         t.x.gap(0);
         t.x.gap(1);
         t.x.take(0);

@@ -72,9 +72,11 @@ public final class TraysTest {
         t.good("60 numbers", t.x.tray(0, 3, 60));
         t.good("read", t.x.read(0, 59), 0);
         t.x.write(0, 59, 7);
+        t.x.write(0, 0, 7);
         t.bad("61 numbers", t.x.tray(0, 3, 61), 5);
         t.good("read", t.x.read(0, 59), 7);
         t.good("60 numbers again", t.x.tray(0, 3, 60));
+        t.good("read", t.x.read(0, 0), 0);
         t.good("read", t.x.read(0, 59), 0);
         t.good("no numbers", t.x.tray(0, 0, 0));
         t.bad("read", t.x.read(0, 0), 4);
@@ -135,6 +137,9 @@ public final class TraysTest {
         other.good("pour to another", other.x.pour(0, 2, 2, 1, 2));
         isRow(other, 2, 0, 12, 13);
         isRow(other, 0, 10, 11, 12, 13, 14);
+        other.x.tray(1, 1, 5);
+        other.good("pour all", other.x.pour(0, 0, 1, 0, 5));
+        isRow(other, 1, 10, 11, 12, 13, 14);
         other.good("pour nothing", other.x.pour(0, 5, 2, 3, 0));
         isRow(other, 2, 0, 12, 13);
     }

@@ -47,6 +47,8 @@ public final class WeeksTest {
         t.bad("99 rats: none come", t.x.backTo(0, 100), 8);
         t.takeYard("rick a holds 0 layers 99 99;breed 2;", 1);
         t.good("one more in each", t.x.backTo(0, 200), 1);
+        t.takeYard("rick a holds 0 layers 99;breed 2;", 1);
+        t.good("one more, then two", t.x.later(0, 3), 104);
     }
 
     private static void eaten() {
@@ -59,6 +61,7 @@ public final class WeeksTest {
         t.bad("eaten(3, 0)", t.x.eaten(3, 0), 2);
         t.bad("eaten(0, 1000)", t.x.eaten(0, 1000), 5);
         t.bad("eaten(0, -1)", t.x.eaten(0, -1), 5);
+        t.good("eaten(0, 1)", t.x.eaten(0, 1), 90);
         t.x.take(1);
         t.good("one at hand", t.x.eaten(1, 999), 12 * 3 * 999);
         t.takeYard("rick a holds 0 layers 99 99 99 99 99 99 99 99;breed 100;corn 9;", 1);
@@ -78,6 +81,10 @@ public final class WeeksTest {
         t.bad("not in 999", t.x.capsPay(0), 8);
         t.takeYard("rick a holds 0 layers 0;", 1);
         t.good("they cost nothing", t.x.capsPay(0), 0);
+        t.takeYard("rick a holds 0 layers 10;breed 100;cost 70;", 1);
+        t.good("10, 20, 40", t.x.capsPay(0), 3);
+        t.x.take(0);
+        t.good("one at hand: 10 each", t.x.capsPay(0), 7);
         t.takeYard("rick a holds 0 layers 0 caps;cost 1;", 1);
         t.bad("8 is asked ahead of 9", t.x.capsPay(0), 8);
     }
@@ -139,6 +146,9 @@ public final class WeeksTest {
         t.x.write(3, 1, -1);
         t.bad("a run of -1", t.x.tells(0, 3, 2, 0), 5);
         t.good("the first alone", t.x.tells(0, 3, 1, 0), 10);
+        t.x.write(3, 0, 10000);
+        t.bad("a first run of 10,000", t.x.tells(0, 3, 1, 0), 5);
+        t.x.write(3, 0, 0);
         t.x.write(3, 1, 9999);
         t.bad("9,999: none", t.x.tells(0, 3, 2, 0), 8);
         t.bad("one layer", t.x.tells(2, 3, 1, 0), 5);

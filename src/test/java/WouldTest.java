@@ -8,6 +8,7 @@ public final class WouldTest {
         bestNets();
         bestPlaces();
         bestOrder();
+        orderOfMany();
         slowly();
         dearest();
         proudest();
@@ -72,6 +73,12 @@ public final class WouldTest {
         t.x.hour();
         t.good("from now on: caught", t.x.whole(0, 2, 0), 13);
         t.good("from now on: off", t.x.whole(0, 2, 1), 0);
+        t.good("a run now: off", t.x.run(10, false, 1), 2);
+        t.good("a run now: caught", t.x.run(10, false, 0), 7);
+        t.good("best nets now", t.x.bestNets(0, 2), 0);
+        t.good("the net that is there", t.x.netSet(), 4);
+        t.good("best places now: 9 at lee, 4 at the ditch", t.x.bestPlaces(0, 1), 6);
+        t.good("slowly now", t.x.slowly(0), 2);
         t.good("from now on: runs", t.x.whole(0, 2, 2), 2);
     }
 
@@ -130,6 +137,12 @@ public final class WouldTest {
         t.good("netSet(): the third alone", t.x.netSet(), 4);
         t.takeYard("rick a holds 0 layers 4;", 1);
         t.good("no sides", t.x.bestNets(0, 1), 4);
+        t.x.take(0);
+        t.x.last(1);
+        t.takeYard("rick a holds 0 layers 3;rick b holds 0 layers 4;", 2);
+        t.x.take(0);
+        t.x.last(1);
+        t.good("those off already do not count", t.x.bestNets(1, 1), 4);
         t.good("netSet()", t.x.netSet(), 0);
         t.takeYard("rick a holds 0 layers 3;side s weight 1;side t weight 1;dog d at s catches 2 tires 9;"
                 + "dog e at t catches 2 tires 9;side u weight 1;dog f at u catches 2 tires 9;", 1);
@@ -152,6 +165,11 @@ public final class WouldTest {
         t.takeYard("rick a holds 0 layers 1;", 1);
         t.bad("no sides", t.x.bestPlaces(0, 1), 8);
         t.good("placeAt(1) of the one ahead", t.x.placeAt(1), 1);
+        t.takeYard("rick a holds 0 layers 3;rick b holds 0 layers 9;side s weight 1;dog d at s catches 1 tires 9;", 2);
+        t.x.take(0);
+        t.x.last(1);
+        t.good("one side, some off already", t.x.bestPlaces(1, 2), 7);
+        t.good("placeAt(0)", t.x.placeAt(0), 0);
         t.takeYard("rick a holds 0 layers 9;side s weight 1;side t weight 1;side u weight 1;"
                 + "dog d at u catches 1 tires 9;dog e at u catches 1 tires 9;", 1);
         t.good("bestPlaces(0, 1)", t.x.bestPlaces(0, 1), 7);
@@ -188,6 +206,30 @@ public final class WouldTest {
         t.x.last(1);
         t.bad("none is left", t.x.bestOrder(1), 8);
         t.good("orderAt(0) of the one ahead", t.x.orderAt(0), 1);
+    }
+
+    private static void orderOfMany() {
+        Due t = new Due("promises 40 and 41");
+        t.takeYard("rick a holds 0 layers 1;rick b holds 0 layers 2;rick c holds 0 layers 3;rick d holds 0 layers 4;", 4);
+        t.good("nobody catches any", t.x.bestOrder(20), 0);
+        for (int k = 0; k < 4; k++) {
+            t.good("as they stand", t.x.orderAt(k), k);
+        }
+        t.x.take(1);
+        t.x.last(1);
+        t.good("nobody catches any", t.x.bestOrder(1), 0);
+        int[] left = {0, 2, 3};
+        for (int k = 0; k < 3; k++) {
+            t.good("those that are left", t.x.orderAt(k), left[k]);
+        }
+        t.bad("no fourth", t.x.orderAt(3), 8);
+        t.takeYard("rick a holds 0 layers 0;rick b holds 0 layers 0;rick c holds 0 layers 9;rick d holds 0 layers 1;"
+                + "side s weight 1 to b;side t weight 0 to a;dog e at s catches 3 tires 200;", 4);
+        t.good("c ahead of b", t.x.bestOrder(1), 7);
+        int[] best = {0, 2, 1, 3};
+        for (int k = 0; k < 4; k++) {
+            t.good("the first by ricks", t.x.orderAt(k), best[k]);
+        }
     }
 
     private static void slowly() {
