@@ -287,7 +287,14 @@ public final class DoneTest {
         t.x.cap(1);
         t.x.take(2);
         t.good("not one with caps", t.x.week(1), 9 + 13 + 45 + 25 + 7);
+        t.takeYard("rick a holds 0 layers 99;rick b holds 0 layers 99;breed 100;", 2);
+        t.good("two weeks", t.x.week(2), 8 * 99);
+        t.x.cap(0);
+        t.x.take(1);
+        t.good("none come in either", t.x.week(50), 8 * 99);
+        t.takeYard("rick a holds 0 layers 99 99 99;rick b holds 0 layers 99 caps;rick c holds 0 layers 99;breed 100;", 3);
+        t.x.take(2);
         t.x.last(1);
-        t.good("nor one without layers", t.x.week(99), 3 * 9999 + 25 + t.x.rick(2, 2));
+        t.good("nor one without layers", t.x.week(99), 3 * 9999 + 99);
     }
 }

@@ -295,6 +295,24 @@ public final class TextsTest {
             t.good("reach", t.x.boy(i, 1), i + 1);
         }
         t.bad("a fifth", t.x.dog(4, 0), 2);
+        callsWithFourOfEach(t);
+    }
+
+    private static void callsWithFourOfEach(Due t) {
+        t.good("rest()", t.x.rest(), 0);
+        t.good("tired()", t.x.tired(), 0);
+        t.good("proudest()", t.x.proudest(), 0);
+        t.good("week(1)", t.x.week(1), 10);
+        // one a rick, and the boy is in the way of each dog
+        t.good("bestNets(3, 1): 1, 1, 1, 1 by boys", t.x.bestNets(3, 1), 0);
+        t.good("netSet()", t.x.netSet(), 0);
+        t.good("bestPlaces(3, 1)", t.x.bestPlaces(3, 1), 0);
+        t.good("bestOrder(1)", t.x.bestOrder(1), 10);
+        t.good("dearest(3, 1)", t.x.dearest(3, 1), 0);
+        t.takeDays("wind;", 1);
+        t.good("live(0)", t.x.live(0), 1);
+        t.good("mark()", t.x.mark(), 1);
+        t.good("back()", t.x.back(), 0);
     }
 
     private static void toldOfFarm() {

@@ -215,6 +215,12 @@ public final class WouldTest {
         for (int k = 0; k < 4; k++) {
             t.good("as they stand", t.x.orderAt(k), k);
         }
+        t.x.mark();
+        t.takeYard("rick a holds 0 layers 3;side s weight 1;boy b at s reach 2;", 1);
+        t.good("one rick", t.x.bestOrder(1), 2);
+        t.good("one rick", t.x.orderAt(0), 0);
+        t.bad("no second", t.x.orderAt(1), 8);
+        t.x.back();
         t.x.take(1);
         t.x.last(1);
         t.good("nobody catches any", t.x.bestOrder(1), 0);
