@@ -574,6 +574,9 @@ public final class LastLayer {
         }
 
         private void passGap(int side, int n) {
+            if (n <= 0) {
+                return;
+            }
             int boysThere = 0;
             for (int i = 0; i < boyMany; i++) {
                 if (boys[i].at == side) {
@@ -597,6 +600,28 @@ public final class LastLayer {
             if (hasRick(sides[side].to)) {
                 ricks[sides[side].to].takeIn(running);
             }
+        }
+
+        /** TAKE: false where no LAYER is left. */
+        boolean takeUp(int rick) {
+            if (!hasRick(rick) || ricks[rick].layersLeft() == 0) {
+                return false;
+            }
+            atHand = rick;
+            return true;
+        }
+
+        int layersAtHand() {
+            return hasRick(atHand) ? ricks[atHand].layersLeft() : 0;
+        }
+
+        /** A NET or a gap comes to a SIDE: false where it is there. */
+        boolean setNet(int side, boolean net) {
+            if (!hasSide(side) || sides[side].net == net) {
+                return false;
+            }
+            sides[side].net = net;
+            return true;
         }
 
         /** HOUR: how many RUN. */
@@ -1309,7 +1334,7 @@ public final class LastLayer {
                 case W_TIRED:
                     return enterBlock(days, at, yard.hasDog(thing) && yard.dogs[thing].isTired() ? 1 : 0);
                 case W_TAKE:
-                    missUnless(takeRick(yard, thing));
+                    missUnless(yard.takeUp(thing));
                     break;
                 case W_HOUR:
                     missUnless(threshLayer(yard));
@@ -1318,10 +1343,10 @@ public final class LastLayer {
                     missUnless(threshLast(yard, number));
                     break;
                 case W_NET:
-                    missUnless(setNet(yard, thing, true));
+                    missUnless(yard.setNet(thing, true));
                     break;
                 case W_GAP:
-                    missUnless(setNet(yard, thing, false));
+                    missUnless(yard.setNet(thing, false));
                     break;
                 case W_MOVE:
                     if (yard.hasDog(thing)) {
@@ -1357,16 +1382,8 @@ public final class LastLayer {
             return sign == '>' ? have > number : have == number;
         }
 
-        private boolean takeRick(Yard yard, int rick) {
-            if (!yard.hasRick(rick) || yard.ricks[rick].layersLeft() == 0) {
-                return false;
-            }
-            yard.atHand = rick;
-            return true;
-        }
-
         private boolean threshLayer(Yard yard) {
-            if (!yard.hasRick(yard.atHand) || yard.ricks[yard.atHand].layersLeft() < 2) {
+            if (yard.layersAtHand() < 2) {
                 return false;
             }
             yard.threshLayer(yard.atHand);
@@ -1375,19 +1392,11 @@ public final class LastLayer {
         }
 
         private boolean threshLast(Yard yard, int parts) {
-            if (!yard.hasRick(yard.atHand) || yard.ricks[yard.atHand].layersLeft() != 1) {
+            if (yard.layersAtHand() != 1) {
                 return false;
             }
             yard.threshLast(yard.atHand, parts);
             threshed++;
-            return true;
-        }
-
-        private boolean setNet(Yard yard, int side, boolean net) {
-            if (!yard.hasSide(side) || yard.sides[side].net == net) {
-                return false;
-            }
-            yard.sides[side].net = net;
             return true;
         }
 
@@ -1944,18 +1953,14 @@ public final class LastLayer {
         if (!yard.hasRick(rick)) {
             return bad(NO_THING);
         }
-        if (yard.ricks[rick].layersLeft() == 0) {
-            return bad(CANT_BE);
-        }
-        yard.atHand = rick;
-        return good(yard.ricks[rick].layersLeft());
+        return yard.takeUp(rick) ? good(yard.layersAtHand()) : bad(CANT_BE);
     }
 
     public int hour() {
         if (!yard.hasRick(yard.atHand)) {
             return bad(THERE_IS_NONE);
         }
-        if (yard.ricks[yard.atHand].layersLeft() < 2) {
+        if (yard.layersAtHand() < 2) {
             return bad(CANT_BE);
         }
         return good(yard.threshLayer(yard.atHand));
@@ -1968,7 +1973,7 @@ public final class LastLayer {
         if (!yard.hasRick(yard.atHand)) {
             return bad(THERE_IS_NONE);
         }
-        if (yard.ricks[yard.atHand].layersLeft() != 1) {
+        if (yard.layersAtHand() != 1) {
             return bad(CANT_BE);
         }
         return good(yard.threshLast(yard.atHand, parts));
@@ -1978,11 +1983,7 @@ public final class LastLayer {
         if (!yard.hasSide(side)) {
             return didNot(NO_THING);
         }
-        if (yard.sides[side].net == net) {
-            return didNot(CANT_BE);
-        }
-        yard.sides[side].net = net;
-        return did();
+        return yard.setNet(side, net) ? did() : didNot(CANT_BE);
     }
 
     public boolean net(int side) {
