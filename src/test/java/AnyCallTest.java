@@ -33,30 +33,6 @@ public final class AnyCallTest {
         return v;
     }
 
-    /** All that is told of an object by calls that change nothing but its STATUS. */
-    private static String told(LastLayer x) {
-        StringBuilder all = new StringBuilder();
-        for (int what = 0; what < 12; what++) {
-            all.append(x.many(what)).append(' ').append(x.lived(what)).append(' ');
-        }
-        for (int i = 0; i < 4; i++) {
-            for (int what = 0; what < 4; what++) {
-                all.append(x.rick(i, what)).append(' ').append(x.side(i, what)).append(' ').append(x.dog(i, what));
-                all.append(' ').append(x.boy(i, what)).append(' ');
-            }
-            for (int k = 0; k < 8; k++) {
-                all.append(x.layer(i, k)).append(' ');
-            }
-            for (int place = 0; place < 60; place++) {
-                all.append(x.read(i, place)).append(' ');
-            }
-            all.append(x.placeAt(i)).append(' ').append(x.orderAt(i)).append(' ');
-        }
-        all.append(x.netted()).append(' ').append(x.pay()).append(' ').append(x.tired()).append(' ');
-        all.append(x.netSet()).append(' ').append(x.top()).append(' ').append(x.bottom());
-        return all.toString();
-    }
-
     private static void run(int seed, List<Method> methods) throws IllegalAccessException {
         Random random = new Random(seed);
         Farmer farmer = new Farmer(random);
@@ -83,8 +59,8 @@ public final class AnyCallTest {
             throws IllegalAccessException {
         String call = "run " + seed + ": " + method.getName() + java.util.Arrays.toString(args);
         try {
-            String before = told(x);
-            check(before.equals(told(twin)), call + ": the two are unlike ahead of it");
+            String before = State.of(x);
+            check(before.equals(State.of(twin)), call + ": the two are unlike ahead of it");
             Object got = method.invoke(x, args);
             int status = x.status();
             check(got.equals(method.invoke(twin, args)) && twin.status() == status, call + " is answered in two ways");
@@ -92,7 +68,7 @@ public final class AnyCallTest {
             boolean hasStatus = !List.of("feed", "status", "top", "bottom", "fault").contains(method.getName());
             boolean refused = hasStatus && status != 0;
             check(!refused || none, call + " has STATUS " + status + " but answers");
-            check(!refused || told(x).equals(before), call + " has STATUS " + status + " but changes something");
+            check(!refused || State.of(x).equals(before), call + " has STATUS " + status + " but changes something");
         } catch (InvocationTargetException e) {
             check(false, call + " throws " + e.getCause());
         }

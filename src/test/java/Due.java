@@ -1,4 +1,7 @@
 import java.nio.charset.StandardCharsets;
+import java.util.function.BooleanSupplier;
+import java.util.function.Consumer;
+import java.util.function.LongSupplier;
 
 /** What the tests share: one object under test, its calls' answers against those that are due, texts by feed(). */
 final class Due {
@@ -22,6 +25,16 @@ final class Due {
         Due due = new Due(about);
         due.takeYard(FARM, 3);
         return due;
+    }
+
+    /** One sentence of the document that names an edge, on a new object. */
+    static void edge(String sentence, Consumer<Due> test) {
+        test.accept(new Due(sentence));
+    }
+
+    /** The same with the farm. */
+    static void farmEdge(String sentence, Consumer<Due> test) {
+        test.accept(farm(sentence));
     }
 
     void is(String what, long got, long want) {
@@ -51,6 +64,22 @@ final class Due {
     void bad(String what, boolean got, int status) {
         is(what, got ? 1 : 0, 0);
         is("status() behind " + what, x.status(), status);
+    }
+
+    /** NONE with a STATUS, and nothing is changed by it. */
+    void refused(String what, int status, LongSupplier call) {
+        String before = State.of(x);
+        int fault = x.fault(0);
+        int place = x.fault(1);
+        bad(what, call.getAsLong(), status);
+        is("nothing is changed by " + what, State.of(x).equals(before) ? 1 : 0, 1);
+        is("fault(0) behind " + what, x.fault(0), fault);
+        is("fault(1) behind " + what, x.fault(1), place);
+    }
+
+    /** false with a STATUS, and nothing is changed by it. */
+    void denied(String what, int status, BooleanSupplier call) {
+        refused(what, status, () -> call.getAsBoolean() ? 1 : LastLayer.NONE);
     }
 
     void fraction(long top, long bottom) {
